@@ -1,0 +1,53 @@
+import java.nio.charset.StandardCharsets;
+
+/** What the tests share: they count wrong answers, print them, and end with 1 by any. */
+final class Due {
+    private static int wrong = 0;
+    private static int asked = 0;
+
+    private Due() {
+    }
+
+    static void is(String call, long got, long due) {
+        asked++;
+        if (got != due) {
+            wrong++;
+            System.out.println(call + " answered " + got + ", due is " + due);
+        }
+    }
+
+    static void holds(String what, boolean so) {
+        is(what, so ? 1 : 0, 1);
+    }
+
+    static void end(String test) {
+        System.out.println(test + ": " + asked + " answers, " + wrong + " wrong");
+        if (wrong != 0) {
+            System.exit(1);
+        }
+    }
+
+    /** Feeds a text and answers what text() answers. */
+    static int text(FirstSeen x, String text) {
+        for (byte b : text.getBytes(StandardCharsets.ISO_8859_1)) {
+            x.feed(b & 255);
+        }
+        return x.text();
+    }
+
+    /** A new object whose rule is the text. */
+    static FirstSeen ruledBy(String text) {
+        FirstSeen x = new FirstSeen();
+        is("text \"" + text + "\"", text(x, text), 1);
+        is("force(1)", x.force(1), 0);
+        return x;
+    }
+
+    /** A sheet of a sort that holds just these numbers. */
+    static void sheet(FirstSeen x, int sheet, int sort, int... items) {
+        is("sheet", x.sheet(sheet, sort, items.length), 1);
+        for (int i = 0; i < items.length; i++) {
+            is("cell", x.cell(sheet, i, items[i]), 1);
+        }
+    }
+}
