@@ -2,7 +2,7 @@ import java.util.Random;
 
 /** Long runs of calls, drawn by fixed seeds, on the class and on Plain: all answers are alike. */
 public final class OracleTest {
-    private static final int RUNS = 400;
+    private static final int RUNS = 1000;
     private static final int CALLS = 512;
     private static final String[] WORDS = {
         "far", "minute", "fog", "high", "one", "thing", "sees", "worth", "sleep", "or", "and",
@@ -47,14 +47,19 @@ public final class OracleTest {
     }
 
     private void settle() {
-        for (int i = random.nextInt(8); i > 0; i--) {
+        boolean full = random.nextInt(5) > 0;
+        for (int i = full ? 7 : random.nextInt(5); i > 0; i--) {
             addThing();
         }
-        for (int i = random.nextInt(7); i > 0; i--) {
+        for (int i = full ? 3 + random.nextInt(4) : random.nextInt(4); i > 0; i--) {
             addSleeper();
         }
         for (int i = random.nextInt(12); i > 0; i--) {
             build();
+        }
+        for (int sheet = 0; full && sheet < 4; sheet++) {
+            int sort = sheet % 3;
+            same("sheet " + sheet, x.sheet(sheet, sort, 40), p.sheet(sheet, sort, 40));
         }
         if (random.nextBoolean()) {
             tellRule();
@@ -63,13 +68,13 @@ public final class OracleTest {
 
     private void step() {
         int what = random.nextInt(100);
-        if (what < 12) {
+        if (what < 16) {
             change();
-        } else if (what < 16) {
+        } else if (what < 17) {
             tellRule();
-        } else if (what < 55) {
+        } else if (what < 45) {
             ask();
-        } else if (what < 78) {
+        } else if (what < 80) {
             wish();
         } else {
             host();
@@ -78,17 +83,17 @@ public final class OracleTest {
 
     private void addThing() {
         // Few rows and columns, so that beds and things often lie in one line.
-        int a = upTo(6), b = random.nextInt(3) * 6 + upTo(6), c = upTo(1000);
+        int a = upTo(6), b = random.nextInt(2) * 6 + upTo(6), c = upTo(1000);
         same("thing " + a + " " + b + " " + c, x.thing(a, b, c), p.thing(a, b, c));
     }
 
     private void addSleeper() {
-        int a = random.nextInt(3) * 6 + upTo(6), b = upTo(24) * 10 + upTo(4), c = upTo(3);
+        int a = random.nextInt(2) * 6 + upTo(6), b = upTo(24) * 10 + upTo(4), c = upTo(3);
         same("sleeper " + a + " " + b + " " + c, x.sleeper(a, b, c), p.sleeper(a, b, c));
     }
 
     private void build() {
-        int a = upTo(36), b = upTo(10);
+        int a = upTo(random.nextBoolean() ? 12 : 36), b = upTo(10);
         same("town 0 " + a + " " + b, x.town(0, a, b), p.town(0, a, b));
     }
 
@@ -203,13 +208,17 @@ public final class OracleTest {
                         p.chance(seed, n, a, d));
                 break;
             }
+            case 33: case 34: case 35: case 36: case 37: case 38: case 39: case 40: case 41:
+                same("fell " + a, x.fell(a), p.fell(a)); break;
+            case 42: case 43: case 44: case 45:
+                same("drawn " + seed % 9, x.drawn(seed % 9), p.drawn(seed % 9)); break;
             default: tell(a, b, d);
         }
     }
 
     /** A sheet that is often true of the town with one bed turned or one sleeper up otherwise. */
     private void tell(int a, int b, int d) {
-        int sheet = upTo(4);
+        int sheet = random.nextInt(3) == 0 ? upTo(4) : 0;
         int n = p.now.sleepers.size();
         int sort = random.nextInt(3);
         same("sheet " + sheet, x.sheet(sheet, sort, n), p.sheet(sheet, sort, n));
@@ -234,14 +243,14 @@ public final class OracleTest {
     private void host() {
         int a = upTo(4), b = upTo(4), c = upTo(40), d = upTo(40);
         switch (random.nextInt(8)) {
-            case 0: {
+            case 0: if (random.nextInt(3) == 0) {
                 int sort = random.nextInt(8) == 0 ? random.nextInt(6) - 2 : random.nextInt(3);
-                int n = random.nextInt(50) - 4;
+                int n = random.nextInt(4) == 0 ? random.nextInt(50) - 4 : 36 + random.nextInt(5);
                 same("sheet " + a + " " + sort + " " + n, x.sheet(a, sort, n), p.sheet(a, sort, n));
-                break;
             }
+                break;
             case 1: case 2: case 3: {
-                int v = random.nextInt(10) == 0 ? random.nextInt() : random.nextInt(14);
+                int v = random.nextInt(10) == 0 ? random.nextInt() : random.nextInt(11);
                 same("cell " + a + " " + c + " " + v, x.cell(a, c, v), p.cell(a, c, v));
                 break;
             }
@@ -251,8 +260,9 @@ public final class OracleTest {
                 break;
             }
             case 5: case 6: {
-                int sort = upTo(3);
-                int n = random.nextInt(23) - 1;
+                int sort = a >= 0 && a < 4 && p.sheets[a] != null && random.nextInt(4) > 0
+                        ? Plain.sort(p.sheets[a]) : upTo(3);
+                int n = random.nextInt(3) == 0 ? random.nextInt(23) - 1 : random.nextInt(3);
                 same("heights " + a + " " + sort + " " + c + " " + n, x.heights(a, sort, c, n),
                         p.heights(a, sort, c, n));
                 break;
