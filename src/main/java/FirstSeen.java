@@ -482,7 +482,7 @@ public final class FirstSeen {
             return BAD;
         }
         Sheet row = sheets[sheet];
-        // A missing sheet may be taken for one of any sort: only then does it lack items.
+        // The document names -13 ahead of -11, and what is missing is of no other sort.
         if (row.sort != MISSING && row.sort != sort) {
             return UNLIKE;
         }
