@@ -5,6 +5,7 @@ public final class BetterTest {
 
     public static void main(String[] args) {
         best();
+        bestAtTheEnds();
         bestAmongOthers();
         turn();
         rest();
@@ -52,6 +53,19 @@ public final class BetterTest {
             Due.is("16: first way " + sort, y.best(0, sort, 1), first[sort][1]);
             Due.is("16: left " + sort, y.best(0, sort, 2), 0);
         }
+    }
+
+    private static void bestAtTheEnds() {
+        FirstSeen late = Due.ruledBy("sees 1;worth 0;sleep 40-minute;");
+        late.sleeper(0, 0, 0);
+        Due.is("16: the last minute", late.best(0, 0, 0), 23);
+        Due.is("16: left in the last minute", late.best(0, 2, 2), -17);
+        FirstSeen soon = Due.ruledBy("sees 1;worth 0;sleep 40+minute;");
+        soon.sleeper(14, 100, 0);
+        soon.thing(0, 13, 10);
+        Due.is("16: the first minute", soon.best(0, 0, 0), 0);
+        Due.is("16: the last way", soon.best(0, 1, 1), 3);
+        Due.is("16: left by both", soon.best(0, 2, 2), -39);
     }
 
     /** The other one takes the near thing in minute 5: up to then it can be had first. */
@@ -134,6 +148,27 @@ public final class BetterTest {
         Due.is("19: the beds stay, too", x.told(1, 5), 3);
         Due.is("19: what below", x.beds(-1), NO_SUCH);
         Due.is("19: what above", x.beds(2), NO_SUCH);
+        // Like ones are told apart by numbers, not by who wakes first.
+        FirstSeen z = Due.ruledBy("sees 1;worth 0;sleep 0;");
+        z.thing(0, 2, 300);
+        z.thing(0, 24, 300);
+        z.sleeper(14, 92, 0);
+        z.sleeper(12, 10, 0);
+        z.thing(0, 17, 300);
+        z.thing(0, 0, 200);
+        Due.is("19: upward", z.beds(1), 1);
+        Due.is("19: upward, all", z.beds(0), 60);
+        FirstSeen v = Due.ruledBy("sees 1;worth 0;sleep 0;");
+        v.thing(0, 1, 300);
+        v.sleeper(0, 11, 0);
+        v.sleeper(2, 3, 0);
+        Due.is("19: the second one has it as well", v.beds(1), 3);
+        FirstSeen u = Due.ruledBy("sees 1;worth 0;sleep 0;");
+        u.thing(0, 15, 300);
+        u.thing(0, 20, 300);
+        u.sleeper(14, 90, 0);
+        u.sleeper(14, 10, 0);
+        Due.is("19: the later one is the first digit", u.beds(1), 12);
         // Who wakes first decides by its own list: it may be best to turn it away.
         FirstSeen y = Due.ruledBy("sees 1;worth (one=1)*(thing=0)*90;sleep 0;");
         y.thing(0, 1, 50);
@@ -160,6 +195,24 @@ public final class BetterTest {
         Due.is("20: no wall hides the nearer thing alone", x.wall(1, 0), NONE);
         x.set(3, 0, 1);
         Due.is("20: one's own bed may rise", x.wall(0, 1), 1);
+        FirstSeen z = new FirstSeen();
+        z.thing(0, 5, 0);
+        z.sleeper(30, 232, 0);
+        z.sleeper(2, 233, 0);
+        z.thing(0, 0, 100);
+        z.town(0, 2, 0);
+        Due.is("20: the one cell between", z.wall(0, 1), 1);
+        z.set(4, 1, 1);
+        z.set(1, 0, 50);
+        z.town(0, 3, 0);
+        Due.is("20: on the other side, the first of two", z.wall(0, 1), 3);
+        FirstSeen w = Due.ruledBy("sees high=0;worth 0;sleep 0;");
+        w.thing(0, 0, 500);
+        w.thing(0, 35, 500);
+        w.sleeper(1, 3, 0);
+        w.sleeper(34, 1, 0);
+        Due.is("20: the first cell", w.wall(1, 0), 0);
+        Due.is("20: the last cell", w.wall(0, 1), 35);
         Due.is("20: alike", x.wall(0, 0), BAD);
         for (int wrong : NONE_SUCH) {
             Due.is("20: no such one", x.wall(wrong, 0), BAD);
@@ -207,6 +260,15 @@ public final class BetterTest {
         y.sleeper(0, 1, 0);
         y.town(0, 0, 9);
         Due.is("21: the most, the first of like ones", y.fell(0), 2);
+        FirstSeen z = Due.ruledBy("sees high=0;worth 0;sleep 0;");
+        z.thing(0, 0, 500);
+        z.thing(0, 35, 500);
+        z.sleeper(1, 3, 0);
+        z.sleeper(34, 1, 0);
+        z.town(0, 0, 1);
+        z.town(0, 35, 9);
+        Due.is("21: the first cell", z.fell(0), 0);
+        Due.is("21: the last cell", z.fell(1), 35);
     }
 
     private static void turned() {
@@ -297,17 +359,17 @@ public final class BetterTest {
     }
 
     private static void drawn() {
-        FirstSeen x = Due.ruledBy("sees 1;worth fog;sleep fog;");
+        FirstSeen x = Due.ruledBy("sees 1;worth fog*2;sleep fog;");
         x.thing(2, 1, 0);
         x.set(1, 0, 20);
         x.sleeper(0, 1, 0);
         x.town(1, 0, 4);
-        for (int seed : new int[] {0, 1, 2, 3, 77, -1, -2, 1 << 20, Integer.MIN_VALUE, Integer.MAX_VALUE}) {
+        for (int seed : new int[] {0, 1, 2, 3, 77, 643, 798, -1, -2, 1 << 20, Integer.MIN_VALUE, Integer.MAX_VALUE}) {
             long z = seed * 1103515245L + 12345 & 0xFFFFFFFFL;
-            Due.is("25: drawn " + seed, x.drawn(seed), (20 + z / 1024 % 10) / 2);
+            Due.is("25: drawn " + seed, x.drawn(seed), 10 + z / 1024 % 10);
         }
         Due.is("25: the fog stays", x.count(3), 4);
-        Due.is("25: and what is left", x.left(-1), 12);
+        Due.is("25: and what is left", x.left(-1), 14);
     }
 
     private static void chance() {

@@ -30,6 +30,15 @@ public final class MorningTest {
             Due.is("12: way " + way, x.seen(0, 0), way);
             Due.is("12: nothing else " + way, x.seen(0, 1), NONE);
         }
+        // Pictures show from the next cell alone.
+        for (int way = 0; way < 4; way++) {
+            FirstSeen near = new FirstSeen();
+            near.thing(2, new int[] {8, 15, 20, 13}[way], 0);
+            near.thing(0, ends[way], 0);
+            near.sleeper(14, way, 0);
+            Due.is("12: the next cell, way " + way, near.seen(0, 0), 0);
+            Due.is("12: the last cell, way " + way, near.seen(0, 1), 1);
+        }
         // A line ends with the town and does not go on in the next row.
         x.set(3, 0, 11);
         x.set(4, 0, 1);
@@ -209,7 +218,8 @@ public final class MorningTest {
         Due.is("15: comes to PRICE", worthOf(0, 40, 0, 3, "5"), 45);
         Due.is("15: the upper bound", worthOf(0, 40, 0, 3, "100"), 139);
         Due.is("15: far above it", worthOf(3, 99, 0, 5, "9999*9999*10"), 406);
-        Due.is("15: the lower bound", worthOf(0, 99, 0, 3, "-100"), 0);
+        Due.is("15: the lower bound", worthOf(1, 99, 0, 3, "-100"), 3);
+        Due.is("15: far below it", worthOf(1, 99, 0, 5, "-9999*9999*10"), 5);
         Due.is("15: just on it", worthOf(1, 99, 0, 3, "-99"), 3);
         Due.is("15: below 0 it is 0", worthOf(0, 5, 0, 3, "-9"), 0);
         Due.is("15: HILL below 0", worthOf(5, 2, 0, 3, "0"), 0);

@@ -97,6 +97,8 @@ public final class TextTest {
         fault("sees\t1;", 4);
         fault("sees 1\r;", 6);
         fault("sees a;", 5);
+        fault("sees farz;", 5);
+        fault("sees afar;", 5);
         fault("sees 1far;", 6);
         fault("sees 1;worth @;", 13);
         fault("sees 1>2;", 6);
@@ -173,6 +175,11 @@ public final class TextTest {
         value("0 or -7", 1);
         value("5 and 7", 1);
         value("5 and 0", 0);
+        value("1 and 5", 1);
+        value("5 and 1", 1);
+        value("0 and 5", 0);
+        value("1 or 1", 1);
+        value("-1 and -1", 1);
         value("1 or 0 and 0", 1);
         value("(1 or 0)and 0", 0);
         value("not 0", 1);
