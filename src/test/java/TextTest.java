@@ -6,6 +6,7 @@ public final class TextTest {
         feed();
         faults();
         depth();
+        wholeTape();
         full();
         values();
         force();
@@ -66,6 +67,9 @@ public final class TextTest {
         fault("sees 1;worth 1;sleep 1 \n", 24);
         fault("sees 1;worth 1;sleep 1;;", 23);
         fault("sees 1;worth 1;sleep 1; sees", 24);
+        fault("sees 1;worth 1;sleep 1;@", 23);
+        fault("sees 1;worth 1;sleep 1;12345", 23);
+        fault("sees 1;worth 1;sleep 1;x", 23);
         fault("sees 12345;", 5);
         fault("sees 00000;", 5);
         fault("sees 1234 5;", 10);
@@ -129,6 +133,24 @@ public final class TextTest {
         // A fault ahead of the one too deep comes first, and one behind it later.
         fault("sees (((1 1(((1", 10);
         fault("sees ((((((x", 10);
+    }
+
+    /** Texts that take all 160 bytes, ending in each sort of token. */
+    private static void wholeTape() {
+        String most = "sees 1;worth 1;sleep " + "1+".repeat(68);
+        good(most + "10;");
+        fault(most + "1+1", 160);
+        fault(most + "far", 160);
+        fault(most + "  1", 160);
+        fault(most + "far;", 160);
+        fault(most + "11+", 160);
+        fault(most + "   ", 160);
+        fault(most + "1;;", 159);
+        value("1+".repeat(68) + "10", 78);
+        value("1-".repeat(66) + "66*-1", 2);
+        value("1*".repeat(68) + "42", 42);
+        value("0or ".repeat(34) + "42", 1);
+        value("1and ".repeat(27) + "42", 1);
     }
 
     private static void full() {
