@@ -572,7 +572,7 @@ public final class FirstSeen {
         int lastMinute = sort == BY_WAY ? wakes : MINUTES - 1;
         int firstWay = sort == BY_MINUTE ? way : 0;
         int lastWay = sort == BY_MINUTE ? way : WAYS - 1;
-        bestLeft = Integer.MIN_VALUE;
+        bestLeft = NO_SUCH;
         morning.lookAll();
         for (int m = firstMinute; m <= lastMinute; m++) {
             for (int w = firstWay; w <= lastWay; w++) {
@@ -945,7 +945,15 @@ public final class FirstSeen {
             sortSleepers();
             bedsLeft = NONE;
             bedsDigits = 0;
-            standBed(0, 0, 0, 0);
+            int codes = 1 << 2 * town.sleepers;
+            // Codes go up as the digits do: of like ones the first has the least digits.
+            for (int code = 0; code < codes; code++) {
+                int worth = worthByCode(code);
+                if (worth > bedsLeft) {
+                    bedsLeft = worth;
+                    bedsDigits = digitsOf(code);
+                }
+            }
             for (int s = 0; s < town.sleepers; s++) {
                 bedsLeft -= sleepOf(s);
             }
@@ -962,31 +970,29 @@ public final class FirstSeen {
             }
         }
 
-        /** One level for each sleeper, in the order in which they wake. */
-        private void standBed(int turn, int gone, int worth, int digits) {
-            if (turn >= town.sleepers || turn >= MOST_SLEEPERS) {
-                if (worth > bedsLeft || worth == bedsLeft && digits < bedsDigits) {
-                    bedsLeft = worth;
-                    bedsDigits = digits;
-                }
-                return;
+        private int worthByCode(int code) {
+            int gone = 0;
+            int worth = 0;
+            for (int i = 0; i < town.sleepers; i++) {
+                int s = order[i];
+                int at = firstFree(s * WAYS + wayByCode(code, s), gone);
+                worth += at == NONE ? 0 : seenWorth[at];
+                gone |= at == NONE ? 0 : 1 << seenThing[at];
             }
-            int s = order[turn];
-            int digit = digitOf(s);
-            for (int w = 0; w < WAYS; w++) {
-                int at = firstFree(s * WAYS + w, gone);
-                int more = at == NONE ? 0 : 1 << seenThing[at];
-                int comes = at == NONE ? 0 : seenWorth[at];
-                standBed(turn + 1, gone | more, worth + comes, digits + w * digit);
-            }
+            return worth;
         }
 
-        private int digitOf(int sleeper) {
-            int digit = 1;
-            for (int s = sleeper + 1; s < town.sleepers; s++) {
-                digit *= 10;
+        /** A code holds two bits for each sleeper, those of sleeper 0 the highest. */
+        private int wayByCode(int code, int sleeper) {
+            return code >> 2 * (town.sleepers - 1 - sleeper) & 3;
+        }
+
+        private int digitsOf(int code) {
+            int digits = 0;
+            for (int s = 0; s < town.sleepers; s++) {
+                digits = 10 * digits + wayByCode(code, s);
             }
-            return digit;
+            return digits;
         }
     }
 

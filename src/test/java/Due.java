@@ -1,18 +1,40 @@
+import java.io.IOException;
 import java.nio.charset.StandardCharsets;
+import java.nio.file.Files;
+import java.nio.file.Path;
 
 /** What the tests share: they count wrong answers, print them, and end with 1 by any. */
 final class Due {
     private static int wrong = 0;
     private static int asked = 0;
+    private static String page = null;
+    private static String spoken = "";
 
     private Due() {
+    }
+
+    /** What is asked from now on speaks of these words of the document, which must be its own. */
+    static void sentence(int promise, String words) {
+        spoken = "promise " + promise + ", \"" + words + "\": ";
+        holds("the document says so", page().contains(words));
+    }
+
+    private static String page() {
+        if (page == null) {
+            try {
+                page = Files.readString(Path.of("../shared/DOC.md")).replaceAll("\\s+", " ");
+            } catch (IOException e) {
+                page = "";
+            }
+        }
+        return page;
     }
 
     static void is(String call, long got, long due) {
         asked++;
         if (got != due) {
             wrong++;
-            System.out.println(call + " answered " + got + ", due is " + due);
+            System.out.println(spoken + call + " answered " + got + ", due is " + due);
         }
     }
 
