@@ -175,6 +175,7 @@ public final class EdgeBetterTest {
 
     private static void rest() {
         Due.sentence(18, "AT REST: nobody's LEFT would be more than it is by BEST of both.");
+        Due.sentence(18, "AT REST: 1, 0.");
         Due.is("nobody", new FirstSeen().rest(), 1);
         // All have nothing and wake last, which is as good as can be; then one of them does not.
         for (int restless = 0; restless < 5; restless++) {

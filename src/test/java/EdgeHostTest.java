@@ -5,6 +5,7 @@ public final class EdgeHostTest {
     private static final int MIN = Integer.MIN_VALUE, MAX = Integer.MAX_VALUE;
 
     public static void main(String[] args) {
+        refusals();
         missingAtFirst();
         sheet();
         sheetIsAllNothing();
@@ -43,6 +44,19 @@ public final class EdgeHostTest {
         Due.holds("items are " + got + ", due are " + items, got.endsWith(": " + items));
     }
 
+    private static void refusals() {
+        Due.sentence(30, "the host's: -11 nothing where something is asked, -12 a place outside, -13 a thing of another sort or KIND, -14 a size below 0.");
+        FirstSeen x = new FirstSeen();
+        sheets(x);
+        Due.is("no row there", x.cell(3, 0, 0), -11);
+        Due.is("no THING there", x.taken(1, 0), -11);
+        Due.is("no item there", x.cell(0, 3, 0), -12);
+        Due.is("unlike sorts", x.copy(0, 0, 1, 0, 1), -13);
+        Due.is("another sort", x.heights(0, 1, 0, 1), -13);
+        Due.is("another KIND", x.taken(0, 5), -13);
+        Due.is("a size", x.sheet(0, 0, -1), -14);
+    }
+
     // ---- sheet
 
     private static void missingAtFirst() {
@@ -67,8 +81,8 @@ public final class EdgeHostTest {
 
     private static void sheet() {
         Due.sentence(30, "A SHEET becomes a row of n of a sort, all 0, or missing (sort -1: n does not matter): 1.");
-        FirstSeen x = new FirstSeen();
         for (int s = 0; s < 4; s++) {
+            FirstSeen x = new FirstSeen();
             for (int sort = 0; sort < 3; sort++) {
                 for (int n = 0; n <= 40; n++) {
                     Due.is("a row of " + n, x.sheet(s, sort, n), 1);

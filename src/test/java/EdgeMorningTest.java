@@ -22,15 +22,13 @@ public final class EdgeMorningTest {
 
     private static void looks() {
         Due.sentence(12, "A SLEEPER LOOKS its WAY from its CELL on: the CELLS that way, FAR 1, 2, .., till the town ends;");
-        FirstSeen x = Due.ruledBy("sees 1;worth 0;sleep 0;");
-        x.thing(1, 0, 0);
-        x.sleeper(0, 0, 0);
         int[] down = {-1, 0, 1, 0};
         int[] across = {0, 1, 0, -1};
         for (int bed = 0; bed < 36; bed++) {
-            x.set(3, 0, bed);
             for (int way = 0; way < 4; way++) {
-                x.set(4, 0, way);
+                FirstSeen x = Due.ruledBy("sees 1;worth 0;sleep 0;");
+                x.thing(1, 0, 0);
+                x.sleeper(bed, way, 0);
                 for (int cell = 0; cell < 36; cell++) {
                     x.set(0, 0, cell);
                     int due = 0;
@@ -49,14 +47,14 @@ public final class EdgeMorningTest {
 
     private static void overOneCell() {
         Due.sentence(12, "one sees into one of these, if of CELLS between it and the bed's none is HIGHER than the bed's, or it is HIGHER than all CELLS between.");
-        FirstSeen x = new FirstSeen();
-        x.thing(0, 7, 0);
-        x.thing(0, 13, 0);
-        x.sleeper(1, 2, 0);
         for (int bed = 0; bed < 10; bed++) {
+            FirstSeen x = new FirstSeen();
+            x.thing(0, 7, 0);
+            x.thing(0, 13, 0);
+            x.sleeper(1, 2, 0);
+            x.town(0, 1, bed);
             for (int between = 0; between < 10; between++) {
                 for (int it = 0; it < 10; it++) {
-                    x.town(0, 1, bed);
                     x.town(0, 7, between);
                     x.town(0, 13, it);
                     String call = "bed " + bed + ", between " + between + ", it " + it;
@@ -69,17 +67,12 @@ public final class EdgeMorningTest {
 
     private static void overMoreCells() {
         Due.sentence(12, "if of CELLS between it and the bed's none is HIGHER than the bed's, or it is HIGHER than all CELLS between.");
-        FirstSeen x = Due.ruledBy("sees far=5;worth 0;sleep 0;");
-        x.thing(0, 30, 0);
-        x.sleeper(35, 3, 0);
         // All but one of the cells between are 4 high, as the bed is; the one is higher or not.
         for (int one = 31; one < 35; one++) {
             for (int high = 0; high < 10; high++) {
+                FirstSeen x = fiveFar(4);
+                x.town(0, one, high);
                 for (int it = 0; it < 10; it++) {
-                    for (int c = 31; c < 36; c++) {
-                        x.town(0, c, 4);
-                    }
-                    x.town(0, one, high);
                     x.town(0, 30, it);
                     boolean due = high <= 4 || it > high;
                     Due.is("cell " + one + " is " + high + ", it is " + it, x.seen(0, 0), due ? 0 : NONE);
@@ -88,9 +81,7 @@ public final class EdgeMorningTest {
         }
         // Two that are higher than the bed: it must be higher than both of them.
         for (int it = 0; it < 10; it++) {
-            for (int c = 31; c < 36; c++) {
-                x.town(0, c, 0);
-            }
+            FirstSeen x = fiveFar(0);
             x.town(0, 34, 5);
             x.town(0, 32, 7);
             x.town(0, 30, it);
@@ -103,6 +94,17 @@ public final class EdgeMorningTest {
             x.town(0, 35, 7);
             Due.is("7 and 5 between, bed 7, it is " + it, x.seen(0, 0), 0);
         }
+    }
+
+    /** A thing in cell 30, 5 FAR from a bed in cell 35, with the bed and all between so high. */
+    private static FirstSeen fiveFar(int high) {
+        FirstSeen x = Due.ruledBy("sees far=5;worth 0;sleep 0;");
+        x.thing(0, 30, 0);
+        x.sleeper(35, 3, 0);
+        for (int c = 31; c < 36; c++) {
+            x.town(0, c, high);
+        }
+        return x;
     }
 
     private static void overNothing() {

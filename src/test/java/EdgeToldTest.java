@@ -133,6 +133,13 @@ public final class EdgeToldTest {
         Due.is("one was", y.turned(0, 1), 1);
         Due.sheet(y, 0, 2, -1, 0);
         Due.is("the other was", y.turned(0, 1), 13);
+        // The town as it is now counts, also if nothing was asked since it changed.
+        y.set(0, 0, 20);
+        y.set(4, 0, 2);
+        Due.sheet(y, 0, 2, 0, 1);
+        Due.is("the other was, where the first one HAS what came", y.turned(0, 0), 1);
+        y.set(0, 0, 35);
+        Due.is("it went again", y.turned(0, 0), 0);
     }
 
     private static void turnedRefusals() {
@@ -269,7 +276,10 @@ public final class EdgeToldTest {
         return (int) (z / 1024 % 10);
     }
 
-    private static final int[] SEEDS = {0, 1, 2, -1, -2, 5, -77, 1 << 16, 1 << 30, MIN, MIN + 1, MAX, MAX - 1};
+    // By 643 and 798 the lowest ten bits of z are all 0, all 1: 1 less or more would be seen.
+    private static final int[] SEEDS = {
+        0, 1, 2, -1, -2, 5, -77, 643, 798, 1 << 16, 1 << 30, MIN, MIN + 1, MAX, MAX - 1
+    };
 
     private static void drawn() {
         Due.sentence(25, "DRAWN by a SEED: z = SEED * 1103515245 + 12345 (an int): were FOG (z >>> 10) % 10: ALL LEFT.");
@@ -310,10 +320,10 @@ public final class EdgeToldTest {
         Due.sentence(26, "IN n seeds (1 .. 20), SEED and each 1 more (an int): of these those by which a SLEEPER HAS any.");
         // FAR 1 .. 5: seen in fogs up to 8 .. 4; a HILL up to 8, a PICTURE in all, none in none.
         for (int far = 1; far < 6; far++) {
-            FirstSeen x = new FirstSeen();
-            x.thing(0, far, 0);
-            x.sleeper(0, 1, 0);
             for (int seed : SEEDS) {
+                FirstSeen x = new FirstSeen();
+                x.thing(0, far, 0);
+                x.sleeper(0, 1, 0);
                 for (int n = 1; n <= 20; n++) {
                     int hits = hits(seed, n, 9 - far);
                     int by = gcd(hits, n);
@@ -332,6 +342,13 @@ public final class EdgeToldTest {
             Due.is("all of " + n + ", below", x.chance(7, n, 0, 1), 1);
             Due.is("none of " + n + ", above", x.chance(7, n, 1, 0), 0);
             Due.is("none of " + n + ", below", x.chance(7, n, 1, 1), 1);
+        }
+        for (int fog = 0; fog < 10; fog++) {
+            x.town(1, 0, fog);
+            x.chance(7, 20, 0, 0);
+            Due.is("FOG stays " + fog, x.count(3), fog);
+            x.drawn(7);
+            Due.is("FOG stays " + fog + ", drawn", x.count(3), fog);
         }
     }
 
@@ -382,20 +399,19 @@ public final class EdgeToldTest {
 
     private static void whatAnImageKeeps() {
         Due.sentence(28, "AN IMAGE keeps how HIGH CELLS are, FOG, CELLS, WAYS, WAKES of SLEEPERS, HOMES, PRICES, NUMBERS of THINGS, THE RULE (SLEEPERS, THINGS that came since go).");
-        FirstSeen x = new FirstSeen();
-        two(x);
-        Due.text(x, "");
-        Due.is("a second TEXT", Due.text(x, "sees 1;worth 0;sleep 3;"), 2);
-        x.force(1);
-        x.image();
-        String was = Twin.now(x);
         for (int what = 0; what < 6; what++) {
+            FirstSeen x = new FirstSeen();
+            ruled(x);
+            String was = Twin.now(x);
             for (int of = 0; of < 2; of++) {
                 x.set(what, of, x.told(of, what < 3 ? what : what + 1) == 0 ? 1 : 0);
                 Due.is("set " + what + " of " + of + " is laid back", x.back(), 2);
                 Due.holds("to " + was + " from " + Twin.now(x), Twin.now(x).equals(was));
             }
         }
+        FirstSeen x = new FirstSeen();
+        ruled(x);
+        String was = Twin.now(x);
         for (int c = 0; c < 36; c += 35) {
             x.town(0, c, 9);
             x.back();
@@ -416,17 +432,28 @@ public final class EdgeToldTest {
         Due.is("the THING that came is none", x.told(2, 0), BAD);
         Due.is("the SLEEPER that came is none", x.told(2, 4), BAD);
         // TEXTS, THE TAPE and SHEETS are none of what it keeps.
-        x.feed('s');
-        x.cell(0, 1, 7);
-        x.sheet(2, 2, 4);
-        x.back();
-        Due.is("THE TAPE stays", x.count(5), 1);
-        Due.is("a TEXT stays", Due.text(x, "ees 1;worth 0;sleep 9;"), 3);
-        x.back();
-        Due.is("TEXTS stay", x.count(4), 4);
-        Due.holds("an item stays", Twin.items(x, 0).endsWith("07"));
-        Due.is("a SHEET stays", x.cell(2, 3, 1), 1);
-        Due.is("it is no missing one", x.cell(2, 4, 1), -12);
+        FirstSeen y = new FirstSeen();
+        ruled(y);
+        y.feed('s');
+        y.cell(0, 1, 7);
+        y.sheet(2, 2, 4);
+        y.back();
+        Due.is("THE TAPE stays", y.count(5), 1);
+        Due.is("a TEXT is made", Due.text(y, "ees 1;worth 0;sleep 9;"), 3);
+        y.back();
+        Due.is("TEXTS stay", y.count(4), 4);
+        Due.is("a SHEET stays", y.cell(2, 3, 1), 1);
+        Due.is("it is no missing one", y.cell(2, 4, 1), -12);
+        Due.holds("an item stays", Twin.items(y, 0).endsWith("07"));
+    }
+
+    /** As two, with a TEXT of its own as THE RULE, another one, and an image of it all. */
+    private static void ruled(FirstSeen x) {
+        two(x);
+        x.text();
+        Due.is("a second TEXT", Due.text(x, "sees 1;worth 0;sleep 3;"), 2);
+        x.force(1);
+        x.image();
     }
 
     private static void back() {
@@ -469,34 +496,40 @@ public final class EdgeToldTest {
     private static void count() {
         Due.sentence(29, "How many: 0 SLEEPERS, 1 THINGS, 2 CELLS that are HIGHER than 0, 3 FOG, 4 TEXTS, 5 bytes of THE TAPE, 6 THE RULE. BAD.");
         FirstSeen x = new FirstSeen();
-        for (int n = 0; n <= 160; n++) {
+        for (int n = 0; n <= 37; n++) {
             Due.is("SLEEPERS", x.count(0), Math.min(n, 5));
             Due.is("THINGS", x.count(1), Math.min(n, 6));
             Due.is("CELLS", x.count(2), Math.min(n, 36));
             Due.is("FOG", x.count(3), Math.min(n, 9));
-            Due.is("bytes", x.count(5), n);
             x.sleeper(0, 0, 0);
             x.thing(0, 0, 0);
             x.town(0, n, 1 + n % 9);
             x.town(1, 0, n + 1);
-            x.feed(n);
         }
-        Due.is("bytes of a full one", x.count(5), 160);
         for (int c = 0; c < 36; c++) {
             Due.is("CELLS that are HIGHER than 0", x.count(2), 36 - c);
             x.town(0, c, 0);
         }
         Due.is("none is HIGHER", x.count(2), 0);
-        x.text();
-        Due.is("no byte more", x.count(5), 0);
-        for (int t = 1; t < 6; t++) {
-            Due.is("TEXTS", x.count(4), t);
-            Due.text(x, "sees 1;worth 1;sleep 1;");
+        FirstSeen y = new FirstSeen();
+        for (int n = 0; n < 160; n++) {
+            Due.is("bytes", y.count(5), n);
+            y.feed(n);
         }
-        Due.is("all TEXTS", x.count(4), 6);
+        Due.is("bytes of a full one", y.count(5), 160);
+        y.feed(0);
+        Due.is("no more than that", y.count(5), 160);
+        y.text();
+        Due.is("no byte more", y.count(5), 0);
+        FirstSeen z = new FirstSeen();
+        for (int t = 1; t < 6; t++) {
+            Due.is("TEXTS", z.count(4), t);
+            Due.text(z, "sees 1;worth 1;sleep 1;");
+        }
+        Due.is("all TEXTS", z.count(4), 6);
         for (int t = 5; t >= 0; t--) {
-            x.force(t);
-            Due.is("THE RULE", x.count(6), t);
+            z.force(t);
+            Due.is("THE RULE", z.count(6), t);
         }
     }
 

@@ -19,6 +19,7 @@ public final class EdgeTownTest {
         told();
         where();
         whereByMinutes();
+        lastCall();
         Due.end("EdgeTownTest");
     }
 
@@ -291,9 +292,9 @@ public final class EdgeTownTest {
         Due.sentence(6, "HOME (what 0), PRICE (1), NUMBER (2) of a THING, CELL (3), WAY (4), WAKES (5) of a SLEEPER becomes v: what it was. BAD.");
         int[] most = {35, 99, 9, 35, 3, 23};
         int[] row = {0, 1, 2, 4, 5, 6};
-        FirstSeen x = new FirstSeen();
-        full(x);
         for (int w = 0; w < 6; w++) {
+            FirstSeen x = new FirstSeen();
+            full(x);
             int what = w;
             int last = what < 3 ? 5 : 4;
             for (int of = 0; of <= last; of++) {
@@ -308,13 +309,13 @@ public final class EdgeTownTest {
                 Due.is("stays so, what " + what, x.told(of, row[what]), most[what]);
             }
             refusedOutside("of whom, what " + what, of -> x.set(what, of, 0), 0, last);
-        }
-        refusedOutside("what", what -> x.set(what, 0, 0), 0, 5);
-        for (int t = 0; t < 6; t++) {
-            Due.is("the KIND stays, " + t, x.told(t, 3), t == 0 ? 1 : t == 1 ? 4 : 0);
-        }
-        for (int s = 0; s < 5; s++) {
-            Due.is("the AGE stays, " + s, x.told(s, 7), s == 0 ? 40 : s);
+            refusedOutside("what", no -> x.set(no, 0, 0), 0, 5);
+            for (int t = 0; t < 6; t++) {
+                Due.is("the KIND stays, " + t, x.told(t, 3), t == 0 ? 1 : t == 1 ? 4 : 0);
+            }
+            for (int s = 0; s < 5; s++) {
+                Due.is("the AGE stays, " + s, x.told(s, 7), s == 0 ? 40 : s);
+            }
         }
         for (int w = -1; w < 7; w++) {
             int what = w;
@@ -385,6 +386,25 @@ public final class EdgeTownTest {
         Twin.unchanged("asking too late", EdgeTownTest::settled, t -> t.where(0, 24), BAD);
     }
 
+    private static void lastCall() {
+        Due.sentence(1, "An object is used for at most 512 calls after it has been made");
+        FirstSeen x = new FirstSeen();
+        x.thing(0, 1, 0);
+        x.sleeper(0, 1, 0);
+        x.image();
+        int calls = 3;
+        while (calls < 506) {
+            Due.is("price of call " + calls, x.set(1, 0, (calls + 1) % 100), calls == 3 ? 0 : calls % 100);
+            calls++;
+        }
+        Due.is("the last six, one", x.turn(0), 6);
+        Due.is("two", x.told(0, 6), 23);
+        Due.is("three", x.beds(0), 6);
+        Due.is("four", x.rest(), 1);
+        Due.is("five", x.back(), 1);
+        Due.is("the last one", x.left(0), -23);
+    }
+
     private static void whereByMinutes() {
         Due.sentence(8, "WALKING: of the six CELLS of HOME's row that one which is (HOME's x, and m by (NUMBER and 1), cut) modulo 6");
         for (int home = 0; home < 36; home++) {
@@ -405,7 +425,7 @@ public final class EdgeTownTest {
                 }
             }
         }
-        Due.sentence(8, "THING: HOME;");
+        Due.sentence(8, "PICTURE, HILL as a THING; BULL: as a WALKING, but in HOME, if m is odd; FRAMED as a PICTURE.");
         FirstSeen x = new FirstSeen();
         int[] still = {0, 2, 4, 5};
         for (int kind : still) {

@@ -24,7 +24,7 @@ public final class FaceTest {
     };
     private static final String[] FORBIDDEN = {
         "throw", "throws", "try", "catch", "finally", "synchronized", "assert", "->", "::",
-        "import static", "Exact(", "protected",
+        "import static", "Exact(", "protected", "MIN_VALUE", "MAX_VALUE",
     };
 
     public static void main(String[] args) throws Exception {
